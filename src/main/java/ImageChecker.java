@@ -365,11 +365,11 @@ public final class ImageChecker {
         }
 
         private static int runCell(int file, int k) {
-            return fileCell(file) + RUNS_AT + k * PARTS;
+            return (file - 1) * CELLS_OF_FILE + RUNS_AT + k * PARTS;
         }
 
         private static int entryCell(int file, int k) {
-            return fileCell(file) + ENTRIES_AT + k * PARTS;
+            return (file - 1) * CELLS_OF_FILE + ENTRIES_AT + k * PARTS;
         }
 
         private static int bitCell(int kind, int number) {

@@ -33,6 +33,9 @@ public final class AnyTablesTest {
         if (random.nextInt(3) > 0) {
             someFiles();
         }
+        if (random.nextInt(3) == 0) {
+            fullFolder(file());
+        }
         int checks = 1 + random.nextInt(3);
         for (int i = 0; i < checks; i++) {
             int calls = 1 + random.nextInt(i == 0 ? 60 : 10);
@@ -67,6 +70,13 @@ public final class AnyTablesTest {
             if (random.nextBoolean()) {
                 entry(random.nextInt(3) == 0 ? 1 : file(), random.nextInt(8), pick(1, 20), file, pick(1, 3));
             }
+        }
+    }
+
+    private void fullFolder(int folder) {
+        set(folder, 0, 2);
+        for (int k = 0; k < 8; k++) {
+            entry(folder, k, pick(1, 255), pick(2, 24), pick(1, 3));
         }
     }
 

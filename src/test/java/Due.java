@@ -25,6 +25,18 @@ final class Due {
         }
     }
 
+    void sameRun(String what, ImageChecker x, int file, int k, int... want) {
+        for (int part = 0; part < 3; part++) {
+            same(what + ": runOf(" + file + ", " + k + ", " + part + ")", x.runOf(file, k, part), want[part]);
+        }
+    }
+
+    void sameEntry(String what, ImageChecker x, int file, int k, int... want) {
+        for (int part = 0; part < 3; part++) {
+            same(what + ": entryOf(" + file + ", " + k + ", " + part + ")", x.entryOf(file, k, part), want[part]);
+        }
+    }
+
     /** Compares all numbers of two volumes' tables, each number under the name of its call. */
     void sameTables(String what, Volume got, Volume want) {
         sameNumbers(what, got.numbers(), want.numbers());
@@ -32,7 +44,8 @@ final class Due {
 
     void sameNumbers(String what, int[] got, int[] want) {
         for (int i = 0; i < Volume.NUMBERS; i++) {
-            same(what + ": " + Volume.nameOf(i), got[i], want[i]);
+            // Millions are compared, so a name is written only for one that is wrong.
+            same(got[i] == want[i] ? what : what + ": " + Volume.nameOf(i), got[i], want[i]);
         }
     }
 

@@ -7,17 +7,13 @@ public final class HangingPassTest {
         rings(due);
         reachedByNewEntries(due);
         lowerFilesFirst(due);
+        fullFolders(due);
+        checksInARow(due);
         fullRoot(due);
         waitingRightly(due);
         waitingWrongly(due);
         lists(due);
         due.end("HangingPassTest");
-    }
-
-    private static void sameEntry(Due due, String what, ImageChecker x, int file, int k, int... want) {
-        for (int part = 0; part < 3; part++) {
-            due.same(what + ": entryOf(" + file + ", " + k + ", " + part + ")", x.entryOf(file, k, part), want[part]);
-        }
     }
 
     /** The root with so many plain files, 24 and down, under the names 1 and up. */
@@ -43,33 +39,33 @@ public final class HangingPassTest {
     private static void leastNames(Due due) {
         ImageChecker x = new Volume().set(5, 0, 1).set(6, 0, 1).set(7, 0, 1).set(8, 0, 2)
             .entry(1, 0, 2, 5, 1).entry(1, 1, 255, 5, 1).entry(1, 2, 3, 8, 2).entry(8, 0, 1, 5, 1).check().made();
-        sameEntry(due, "behind the others, the least name", x, 1, 3, 1, 6, 1);
-        sameEntry(due, "then the next one", x, 1, 4, 4, 7, 1);
+        due.sameEntry("behind the others, the least name", x, 1, 3, 1, 6, 1);
+        due.sameEntry("then the next one", x, 1, 4, 4, 7, 1);
         ImageChecker full = rootWith(7).set(3, 0, 3).check().made();
-        sameEntry(due, "name 8 behind 1 to 7", full, 1, 7, 8, 3, 3);
+        due.sameEntry("name 8 behind 1 to 7", full, 1, 7, 8, 3, 3);
     }
 
     private static void rings(Due due) {
         ImageChecker self = new Volume().set(4, 0, 2).set(5, 0, 1).entry(4, 0, 8, 4, 2).entry(4, 1, 9, 5, 1).made();
         due.same("a folder in itself: check()", self.check(), 4 + 8 + 16);
-        sameEntry(due, "a folder in itself", self, 1, 0, 1, 4, 2);
-        sameEntry(due, "its entry for itself went, the other came up", self, 4, 0, 9, 5, 1);
-        sameEntry(due, "its entry for itself went", self, 4, 1, 0, 0, 0);
+        due.sameEntry("a folder in itself", self, 1, 0, 1, 4, 2);
+        due.sameEntry("its entry for itself went, the other came up", self, 4, 0, 9, 5, 1);
+        due.sameEntry("its entry for itself went", self, 4, 1, 0, 0, 0);
         due.same("its links", self.about(4, 2), 2);
         ImageChecker three = new Volume().set(4, 0, 2).set(5, 0, 2).set(6, 0, 2)
             .entry(4, 0, 8, 6, 2).entry(6, 0, 8, 5, 2).entry(5, 0, 8, 4, 2).made();
         due.same("a ring of three: check()", three.check(), 4 + 8 + 16);
         due.same("the least one hangs in the root", three.find(1), 4);
         due.same("the others behind it", three.find(0x080801), 5);
-        sameEntry(due, "the ring is open", three, 5, 0, 0, 0, 0);
+        due.sameEntry("the ring is open", three, 5, 0, 0, 0, 0);
         due.same("parent", three.about(5, 4), 6);
         due.same("again: check()", three.check(), 0);
     }
 
     private static void reachedByNewEntries(Due due) {
         ImageChecker x = new Volume().set(3, 0, 2).set(5, 0, 2).set(7, 0, 1).entry(3, 0, 9, 5, 2).entry(5, 0, 9, 7, 1).check().made();
-        sameEntry(due, "the folder", x, 1, 0, 1, 3, 2);
-        sameEntry(due, "what is in it hangs there", x, 1, 1, 0, 0, 0);
+        due.sameEntry("the folder", x, 1, 0, 1, 3, 2);
+        due.sameEntry("what is in it hangs there", x, 1, 1, 0, 0, 0);
         due.same("what is in it", x.find(0x090901), 7);
     }
 
@@ -77,17 +73,48 @@ public final class HangingPassTest {
         ImageChecker x = new Volume().set(3, 0, 1).set(7, 0, 2).set(9, 0, 1).set(10, 0, 2)
             .entry(7, 0, 20, 9, 1).entry(7, 1, 21, 3, 1).entry(7, 2, 22, 9, 1).entry(7, 3, 23, 3, 1)
             .entry(10, 0, 30, 3, 1).entry(10, 1, 31, 9, 1).check().made();
-        sameEntry(due, "a file before its folder gets an entry of its own", x, 1, 0, 1, 3, 1);
-        sameEntry(due, "then its folder", x, 1, 1, 2, 7, 2);
-        sameEntry(due, "then the other folder", x, 1, 2, 3, 10, 2);
-        sameEntry(due, "nothing more", x, 1, 3, 0, 0, 0);
-        sameEntry(due, "all entries for it went", x, 7, 0, 20, 9, 1);
-        sameEntry(due, "those behind came up", x, 7, 1, 22, 9, 1);
-        sameEntry(due, "all entries for it went", x, 7, 2, 0, 0, 0);
-        sameEntry(due, "in each folder", x, 10, 0, 31, 9, 1);
-        sameEntry(due, "in each folder", x, 10, 1, 0, 0, 0);
+        due.sameEntry("a file before its folder gets an entry of its own", x, 1, 0, 1, 3, 1);
+        due.sameEntry("then its folder", x, 1, 1, 2, 7, 2);
+        due.sameEntry("then the other folder", x, 1, 2, 3, 10, 2);
+        due.sameEntry("nothing more", x, 1, 3, 0, 0, 0);
+        due.sameEntry("all entries for it went", x, 7, 0, 20, 9, 1);
+        due.sameEntry("those behind came up", x, 7, 1, 22, 9, 1);
+        due.sameEntry("all entries for it went", x, 7, 2, 0, 0, 0);
+        due.sameEntry("in each folder", x, 10, 0, 31, 9, 1);
+        due.sameEntry("in each folder", x, 10, 1, 0, 0, 0);
         due.same("links of the one", x.about(3, 2), 1);
         due.same("links of the other", x.about(9, 2), 3);
+    }
+
+    /** A folder of eight entries, some of which lead to a file before it. */
+    private static void fullFolders(Due due) {
+        Volume v = new Volume().set(3, 0, 1).set(24, 0, 2).set(23, 0, 1);
+        for (int k = 0; k < 8; k++) {
+            v.entry(24, k, 50 + k, k == 0 || k == 4 || k == 7 ? 3 : 23, 1);
+        }
+        v.set(22, 0, 2).entry(22, 0, 9, 24, 2);
+        ImageChecker x = v.made();
+        due.same("a full folder: check()", x.check(), 4 + 8 + 16);
+        int[] names = {51, 52, 53, 55, 56};
+        due.sameEntry("the file", x, 1, 0, 1, 3, 1);
+        due.sameEntry("the folder of the full folder", x, 1, 1, 2, 22, 2);
+        due.sameEntry("file 23 is reached by then", x, 1, 2, 0, 0, 0);
+        due.same("links of file 23", x.about(23, 2), 5);
+        for (int k = 0; k < 8; k++) {
+            due.sameEntry("a full folder", x, 24, k, k < 5 ? new int[] {names[k], 23, 1} : new int[3]);
+        }
+        due.same("a full folder, again: check()", x.check(), 0);
+    }
+
+    /** What one check has found of reached and waiting files counts for no later one. */
+    private static void checksInARow(Due due) {
+        ImageChecker x = new Volume().set(5, 0, 1).hold(5, true).tell(2, 5).check()
+            .tell(2, 0).set(6, 0, 1).entry(1, 0, 9, 6, 1).check().made();
+        due.same("waited once, then hangs nowhere", x.find(1), 5);
+        due.same("nothing waits", x.told(2), 0);
+        x.entry(1, 0, 0, 0, 0);
+        due.same("reached once, then hangs nowhere: check()", x.check(), 2 + 4);
+        due.same("reached once, then hangs nowhere", x.find(2), 6);
     }
 
     private static void fullRoot(Due due) {
@@ -173,5 +200,7 @@ public final class HangingPassTest {
         due.same("all files wait, the last one", all.made().about(2, 3), 0);
         due.same("all files wait, the one before", all.made().about(3, 3), 2);
         due.same("all files wait, free files", all.made().told(1), 0);
+        due.same("all 24 files in the list, the root first: check()", all.tell(2, 1).set(1, 3, 24).checked(), 8);
+        due.same("the last one of 24 waits on", all.made().about(3, 3), 2);
     }
 }

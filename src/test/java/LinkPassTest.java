@@ -4,6 +4,7 @@ public final class LinkPassTest {
         Due due = new Due();
         links(due);
         parents(due);
+        sizesAreNoEntries(due);
         waiting(due);
         due.end("LinkPassTest");
     }
@@ -42,6 +43,22 @@ public final class LinkPassTest {
                 due.same("parent of " + file, x.about(file, 4), want[file]);
             }
             due.same("parents again: check()", x.check(), 0);
+        }
+    }
+
+    private static void sizesAreNoEntries(Due due) {
+        int[] links = {0, 3, 4, 2, 2, 3, 1};
+        int[] parents = {0, 1, 1, 2, 2, 0, 0};
+        for (int folder = 2; folder <= 4; folder++) {
+            Volume v = tree();
+            for (int file = 1; file <= 6; file++) {
+                v.set(file, 1, folder);
+            }
+            ImageChecker x = v.check().made();
+            for (int file = 1; file <= 6; file++) {
+                due.same("links of " + file + " with sizes " + folder, x.about(file, 2), links[file]);
+                due.same("parent of " + file + " with sizes " + folder, x.about(file, 4), parents[file]);
+            }
         }
     }
 

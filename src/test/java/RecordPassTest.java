@@ -21,12 +21,6 @@ public final class RecordPassTest {
         return new Volume().set(file, 0, 1).set(file, 1, size).entry(1, 0, 1, file, 1);
     }
 
-    private static void sameRun(Due due, String what, ImageChecker x, int file, int k, int... want) {
-        for (int part = 0; part < 3; part++) {
-            due.same(what + ": runOf(" + file + ", " + k + ", " + part + ")", x.runOf(file, k, part), want[part]);
-        }
-    }
-
     private static void roots(Due due) {
         for (int kind : new int[] {0, 1, 3, 4, -1, MAX}) {
             Volume v = new Volume().record(1, kind, 500, 2, 0, 1).run(1, 0, 0, 1, 9).entry(1, 0, 4, 2, 1);
@@ -38,7 +32,7 @@ public final class RecordPassTest {
         ImageChecker x = new Volume().set(1, 1, 3000).run(1, 0, 0, 9, 20).made();
         due.same("a root that is a folder: check()", x.check(), 1 + 16);
         due.same("keeps its size", x.about(1, 1), 3000);
-        sameRun(due, "a root that is a folder", x, 1, 0, 0, 3, 20);
+        due.sameRun("a root that is a folder", x, 1, 0, 0, 3, 20);
     }
 
     private static void kinds(Due due) {
@@ -61,23 +55,24 @@ public final class RecordPassTest {
             due.same("no runs, size " + size, hung(2, size).check().made().about(2, 1), 0);
             ImageChecker x = hung(2, size).run(2, 0, 4, 3, 30).run(2, 1, 2, 1, 40).run(2, 5, 60, 5, 50).check().made();
             due.same("the greatest end of right runs, size " + size, x.about(2, 1), 7168);
-            sameRun(due, "the first one stays", x, 2, 0, 4, 3, 30);
-            sameRun(due, "the second begins before its end", x, 2, 1, 0, 0, 0);
+            due.sameRun("the first one stays", x, 2, 0, 4, 3, 30);
+            due.sameRun("the second begins before its end", x, 2, 1, 0, 0, 0);
         }
         ImageChecker x = hung(2, -1).run(2, 0, 0, 2, 30).run(2, 1, 63, 1, 31).check().made();
         due.same("a right run counts for the size, if it goes later, too", x.about(2, 1), 65536);
-        sameRun(due, "it goes, for it lies on the first", x, 2, 1, 0, 0, 0);
+        due.sameRun("it goes, for it lies on the first", x, 2, 1, 0, 0, 0);
+        due.same("an entry is no run", hung(2, -1).set(2, 0, 2).entry(2, 0, 5, 2, 20).check().made().about(2, 1), 0);
         ImageChecker all = hung(2, -1).run(2, 3, 0, 64, 137).check().made();
         due.same("all 64 pieces", all.about(2, 1), 65536);
-        sameRun(due, "all 64 pieces", all, 2, 0, 0, 64, 137);
+        due.sameRun("all 64 pieces", all, 2, 0, 0, 64, 137);
     }
 
     private static void rightRuns(Due due) {
         int[][] right = {{0, 1, 9}, {63, 1, 200}, {0, 64, 9}, {0, 64, 137}, {62, 2, 199}};
         for (int[] run : right) {
             ImageChecker x = hung(2, 65536).run(2, 2, run[0], run[1], run[2]).check().made();
-            sameRun(due, "a right run", x, 2, 0, run);
-            sameRun(due, "its old place", x, 2, 2, 0, 0, 0);
+            due.sameRun("a right run", x, 2, 0, run);
+            due.sameRun("its old place", x, 2, 2, 0, 0, 0);
         }
         int[][] wrong = {{0, 0, 9}, {0, -1, 9}, {-1, 1, 9}, {-1, 2, 20}, {64, 1, 9}, {63, 2, 9}, {0, 65, 9}, {0, 1, 8},
             {0, 2, 200}, {0, 1, 201}, {0, 64, 138}, {0, 1, 0}, {0, 1, -1}, {0, 9, 1}, {MAX, 1, 9}, {1, MAX, 9},
@@ -93,11 +88,11 @@ public final class RecordPassTest {
         ImageChecker x = hung(2, 65536).run(2, 0, 3, 0, 50).run(2, 1, 1, 1, 30).run(2, 2, 2, 2, 2)
             .run(2, 3, 4, 1, 20).run(2, 5, 5, 2, 40).made();
         due.same("runs come up: check()", x.check(), 1 + 8 + 16);
-        sameRun(due, "runs come up", x, 2, 0, 1, 1, 30);
-        sameRun(due, "runs come up", x, 2, 1, 4, 1, 20);
-        sameRun(due, "runs come up", x, 2, 2, 5, 2, 40);
+        due.sameRun("runs come up", x, 2, 0, 1, 1, 30);
+        due.sameRun("runs come up", x, 2, 1, 4, 1, 20);
+        due.sameRun("runs come up", x, 2, 2, 5, 2, 40);
         for (int k = 3; k < 6; k++) {
-            sameRun(due, "behind them", x, 2, k, 0, 0, 0);
+            due.sameRun("behind them", x, 2, k, 0, 0, 0);
         }
     }
 
@@ -106,34 +101,34 @@ public final class RecordPassTest {
             {2048, 2}, {1025, 2}, {1024, 1}, {1, 1}};
         for (int[] each : sizeAndLength) {
             ImageChecker x = hung(2, each[0]).run(2, 0, 0, 10, 30).check().made();
-            sameRun(due, "size " + each[0], x, 2, 0, 0, each[1], 30);
+            due.sameRun("size " + each[0], x, 2, 0, 0, each[1], 30);
         }
         ImageChecker none = hung(2, 0).run(2, 0, 0, 10, 30).check().made();
-        sameRun(due, "size 0", none, 2, 0, 0, 0, 0);
+        due.sameRun("size 0", none, 2, 0, 0, 0, 0);
         ImageChecker x = hung(2, 5000).run(2, 0, 5, 1, 30).run(2, 1, 4, 9, 40).run(2, 2, 5, 1, 60).check().made();
-        sameRun(due, "nothing is left of the first", x, 2, 0, 4, 1, 40);
-        sameRun(due, "nor of the third", x, 2, 1, 0, 0, 0);
+        due.sameRun("nothing is left of the first", x, 2, 0, 4, 1, 40);
+        due.sameRun("nor of the third", x, 2, 1, 0, 0, 0);
         ImageChecker y = hung(2, 1000).run(2, 0, 0, 9, 30).set(3, 0, 1).set(3, 1, 1024).run(3, 0, 0, 1, 31).check().made();
-        sameRun(due, "blocks that a shorter run left are free for others", y, 3, 0, 0, 1, 31);
+        due.sameRun("blocks that a shorter run left are free for others", y, 3, 0, 0, 1, 31);
         ImageChecker z = hung(2, 1000).run(2, 0, 0, 1, 31).set(3, 0, 1).set(3, 1, 1024).run(3, 0, 0, 2, 30).check().made();
-        sameRun(due, "a run is made shorter before its blocks are looked at", z, 3, 0, 0, 1, 30);
+        due.sameRun("a run is made shorter before its blocks are looked at", z, 3, 0, 0, 1, 30);
     }
 
     private static void runsOverOthers(Due due) {
         ImageChecker x = hung(2, 65536).run(2, 0, 5, 2, 30).run(2, 1, 6, 1, 40).run(2, 2, 7, 1, 50).check().made();
-        sameRun(due, "one that begins before the end goes, one at the end stays", x, 2, 1, 7, 1, 50);
+        due.sameRun("one that begins before the end goes, one at the end stays", x, 2, 1, 7, 1, 50);
         ImageChecker y = hung(2, 65536).run(2, 0, 5, 2, 30).run(2, 1, 7, 5, 26).run(2, 2, 8, 1, 32).check().made();
-        sameRun(due, "one whose last block is taken goes, with it its end", y, 2, 1, 8, 1, 32);
+        due.sameRun("one whose last block is taken goes, with it its end", y, 2, 1, 8, 1, 32);
         ImageChecker z = hung(2, 65536).run(2, 0, 5, 2, 30).run(2, 1, 7, 5, 25).check().made();
-        sameRun(due, "one that ends right before", z, 2, 1, 7, 5, 25);
+        due.sameRun("one that ends right before", z, 2, 1, 7, 5, 25);
         ImageChecker others = hung(3, 2048).run(3, 0, 0, 2, 30).set(2, 0, 2).set(2, 1, 1).run(2, 0, 0, 1, 31)
             .set(4, 0, 3).set(4, 1, 9999).run(4, 0, 0, 1, 30).run(4, 1, 1, 2, 29).run(4, 2, 1, 1, 32).check().made();
-        sameRun(due, "the file before keeps the block", others, 2, 0, 0, 1, 31);
-        sameRun(due, "the file behind loses its run", others, 3, 0, 0, 0, 0);
-        sameRun(due, "runs that went hold no block", others, 4, 0, 0, 1, 30);
-        sameRun(due, "then the next one", others, 4, 1, 1, 1, 32);
+        due.sameRun("the file before keeps the block", others, 2, 0, 0, 1, 31);
+        due.sameRun("the file behind loses its run", others, 3, 0, 0, 0, 0);
+        due.sameRun("runs that went hold no block", others, 4, 0, 0, 1, 30);
+        due.sameRun("then the next one", others, 4, 1, 1, 1, 32);
         ImageChecker gone = hung(3, 1024).run(3, 0, 0, 1, 30).set(2, 0, 5).set(2, 1, 1024).run(2, 0, 0, 1, 30).check().made();
-        sameRun(due, "a record that goes holds no block", gone, 3, 0, 0, 1, 30);
+        due.sameRun("a record that goes holds no block", gone, 3, 0, 0, 1, 30);
     }
 
     private static void entriesOfNoFolder(Due due) {
