@@ -1,13 +1,37 @@
-/** Counts and prints the answers that are not as due. */
+/** Counts and prints the answers that are not as due, under the sentence that asks for them. */
 final class Due {
     private int wrong = 0;
     private int asked = 0;
+    private int sentences = 0;
+    private int askedBefore = -1;
+    private String sentence = "";
+
+    /** Begins the test of a sentence of the document, in the words that stand there. */
+    void sentence(String where, String words) {
+        endSentence();
+        sentences++;
+        sentence = where + ", \"" + words + "\": ";
+        askedBefore = asked;
+        if (!Document.says(words)) {
+            tellWrong("does not stand in the document");
+        }
+    }
+
+    private void endSentence() {
+        if (askedBefore == asked) {
+            tellWrong("is quoted, but not tested");
+        }
+    }
+
+    private void tellWrong(String what) {
+        wrong++;
+        System.out.println(sentence + what);
+    }
 
     void same(String what, long got, long want) {
         asked++;
         if (got != want) {
-            wrong++;
-            System.out.println(what + " answered " + got + ", due is " + want);
+            tellWrong(what + " answered " + got + ", due is " + want);
         }
     }
 
@@ -20,8 +44,7 @@ final class Due {
             got = e.getClass().getName();
         }
         if (!got.equals("java.lang.IllegalArgumentException")) {
-            wrong++;
-            System.out.println(what + " threw " + got + ", due is IllegalArgumentException");
+            tellWrong(what + " threw " + got + ", due is IllegalArgumentException");
         }
     }
 
@@ -31,9 +54,23 @@ final class Due {
         }
     }
 
+    /** The runs of a file from the first place on, and nothing in the places behind them. */
+    void sameRuns(String what, ImageChecker x, int file, int[]... want) {
+        for (int k = 0; k < 6; k++) {
+            sameRun(what, x, file, k, k < want.length ? want[k] : new int[3]);
+        }
+    }
+
     void sameEntry(String what, ImageChecker x, int file, int k, int... want) {
         for (int part = 0; part < 3; part++) {
             same(what + ": entryOf(" + file + ", " + k + ", " + part + ")", x.entryOf(file, k, part), want[part]);
+        }
+    }
+
+    /** The entries of a folder from the first place on, and nothing in the places behind them. */
+    void sameEntries(String what, ImageChecker x, int file, int[]... want) {
+        for (int k = 0; k < 8; k++) {
+            sameEntry(what, x, file, k, k < want.length ? want[k] : new int[3]);
         }
     }
 
@@ -51,7 +88,8 @@ final class Due {
 
     /** Ends the test: exit code 1 if an answer was wrong, or if none was asked for. */
     void end(String test) {
-        System.out.println(test + ": " + asked + " answers, " + wrong + " wrong");
+        endSentence();
+        System.out.println(test + ": " + sentences + " sentences, " + asked + " answers, " + wrong + " wrong");
         if (wrong != 0 || asked == 0) {
             System.exit(1);
         }

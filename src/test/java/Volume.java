@@ -10,14 +10,68 @@ import java.util.function.Consumer;
 final class Volume {
     static final int FILES = 24;
     static final int BLOCKS = 200;
-    private static final int OF_FILE = 5 + 6 * 3 + 8 * 3;
+    static final int OF_FILE = 5 + 6 * 3 + 8 * 3;
     private static final int BLOCK_BITS_AT = FILES * OF_FILE;
     private static final int FILE_BITS_AT = BLOCK_BITS_AT + BLOCKS;
     private static final int TOLD_AT = FILE_BITS_AT + FILES;
     static final int NUMBERS = TOLD_AT + 3;
-    private static final int CALLS_OF_OBJECT = 512;
+    static final int CALLS_OF_OBJECT = 512;
 
     private final List<Consumer<ImageChecker>> calls = new ArrayList<>();
+
+    /** A plain file of so many bytes that hangs in the root, whose first entry is its. */
+    static Volume hung(int file, int size) {
+        return new Volume().set(file, 0, 1).set(file, 1, size).entry(1, 0, 1, file, 1);
+    }
+
+    /** A root with so many plain files, 24 and down, under the names 1 and up. */
+    static Volume rootWith(int files) {
+        Volume v = new Volume();
+        for (int k = 0; k < files; k++) {
+            v.set(24 - k, 0, 1).entry(1, k, k + 1, 24 - k, 1);
+        }
+        return v;
+    }
+
+    /** Whole tables with all that can be in them: folders, files with runs, links, files that wait. */
+    static Volume full() {
+        return new Volume()
+            .set(1, 2, 3).set(1, 1, 1024).run(1, 0, 0, 1, 9)
+            .entry(1, 0, 200, 2, 2).entry(1, 1, 7, 3, 1).entry(1, 2, 8, 3, 1).entry(1, 3, 9, 6, 3)
+            .record(2, 2, 0, 3, 0, 1).entry(2, 0, 7, 4, 2).entry(2, 1, 8, 3, 1)
+            .record(3, 1, 65536, 3, 0, 0)
+            .run(3, 0, 0, 10, 191).run(3, 1, 10, 2, 20).run(3, 2, 30, 1, 19).run(3, 3, 40, 1, 18)
+            .run(3, 4, 50, 1, 17).run(3, 5, 61, 3, 100)
+            .record(4, 2, 5, 2, 0, 2)
+            .record(6, 3, 1, 1, 0, 0).run(6, 0, 0, 1, 10)
+            .record(7, 1, 2048, 0, 5, 0).run(7, 0, 1, 1, 11).hold(7, true)
+            .record(5, 3, 0, 0, 0, 0).hold(5, true)
+            .tell(2, 7)
+            .bits(0, 9, 11).bits(0, 17, 21).bits(0, 100, 102).bits(0, 191, 200).bits(1, 1, 7)
+            .tell(0, 192 - 21).tell(1, 24 - 7);
+    }
+
+    /** The numbers of whole tables, as the document's terms tell them. */
+    static int[] wholeNumbers() {
+        int[] whole = new int[NUMBERS];
+        for (int i = 0; i < NUMBERS; i++) {
+            whole[i] = switch (nameOf(i)) {
+                case "about(1, 0)", "about(1, 2)" -> 2;
+                case "about(1, 4)", "isTaken(1, 1)" -> 1;
+                case "told(0)" -> 192;
+                case "told(1)" -> 23;
+                default -> nameOf(i).matches("isTaken\\(0, [1-8]\\)") ? 1 : 0;
+            };
+        }
+        return whole;
+    }
+
+    Volume kinds(int kind, int... files) {
+        for (int file : files) {
+            set(file, 0, kind);
+        }
+        return this;
+    }
 
     Volume clear() { return then(ImageChecker::clear); }
 
@@ -46,9 +100,23 @@ final class Volume {
 
     Volume check() { return then(ImageChecker::check); }
 
+    Volume find(long path) { return then(x -> x.find(path)); }
+
     /** A record's five numbers, in the order of set(). */
     Volume record(int file, int kind, int size, int links, int behind, int parent) {
         return set(file, 0, kind).set(file, 1, size).set(file, 2, links).set(file, 3, behind).set(file, 4, parent);
+    }
+
+    /** A call that must be refused; one that is not is seen by the root's kind, if by nothing else. */
+    Volume refused(Consumer<ImageChecker> call) {
+        return then(x -> {
+            try {
+                call.accept(x);
+                x.set(1, 0, -1);
+            } catch (IllegalArgumentException e) {
+                return;
+            }
+        });
     }
 
     private Volume then(Consumer<ImageChecker> call) {
