@@ -104,12 +104,14 @@ public final class BitPassTest {
         Volume blocks = new Volume().kinds(1, 2, 3, 4).set(2, 1, 65536).run(2, 0, 0, 64, 9).set(3, 1, 65536)
             .run(3, 0, 0, 64, 73).set(4, 1, 65536).run(4, 0, 0, 64, 137).check();
         due.same("no block is free", blocks.made().told(0), 0);
+        due.same("no block is free, free files", blocks.made().told(1), 20);
         due.same("no block is free, again: check()", blocks.checked(), 0);
         Volume files = new Volume();
         for (int file = 2; file <= 24; file++) {
             files.set(file, 0, 2).entry(file - 1, 0, 1, file, 2);
         }
         due.same("no file is free", files.check().made().told(1), 0);
+        due.same("no file is free, free blocks", files.made().told(0), 192);
         due.same("no file is free, again: check()", files.checked(), 0);
     }
 

@@ -107,7 +107,11 @@ public final class FindTest {
             low.set(file, 0, 2).entry(file - 1, 0, file, file, 2);
         }
         due.same("eight names, a positive path", low.made().find(0x0908070605040302L), 9);
-        due.same("the last of eight is a plain file", low.set(9, 0, 1).made().find(0x0908070605040302L), 9);
+        for (int kind : new int[] {0, 1, 3, 4, MIN}) {
+            due.same("the last of eight is of kind " + kind, low.set(9, 0, kind).made().find(0x0908070605040302L), 9);
+        }
+        due.same("the last of eight leads to no file", low.entry(8, 0, 9, 25, 1).made().find(0x0908070605040302L), 0);
+        low.entry(8, 0, 9, 9, 2);
         due.same("the seventh of eight is a plain file", low.set(8, 0, 1).made().find(0x0908070605040302L), 0);
     }
 
@@ -122,6 +126,14 @@ public final class FindTest {
         due.same("a name that another folder has", x.find(path(9)), 0);
         due.same("the greatest path", x.find(Long.MAX_VALUE), 0);
         due.same("all bits", x.find(-1L), 0);
+        for (int any : new int[] {1, 2, 3, 24}) {
+            Volume v = new Volume().set(1, 1, any).entry(1, 0, 8, 2, 2).set(2, 0, 2);
+            for (int file = 3; file <= 24; file++) {
+                v.record(file, any, any, any, any, any).run(file, 0, any, any, any).run(file, 5, any, any, any);
+            }
+            due.same("in whatever numbers of records, " + any, v.made().find(path(9)), 0);
+            due.same("in whatever numbers of records, in a folder, " + any, v.made().find(path(8, any)), 0);
+        }
     }
 
     private static void noFile(Due due) {

@@ -56,6 +56,9 @@ public final class FolderPassTest {
         }
         due.sameEntries("from places 1, 3, 5, 7", odd.check().made(), 1, row(11, 2, 1), row(13, 2, 1), row(15, 3, 1),
             row(17, 3, 1));
+        ImageChecker next = new Volume().set(2, 0, 2).entry(1, 0, 9, 2, 2).kinds(1, 3, 4).set(3, 1, 4).set(3, 2, 1)
+            .entry(1, 1, 8, 3, 1).entry(1, 2, 7, 4, 1).check().made();
+        due.sameEntries("the numbers of the next file are no entry", next, 2);
         Volume v = Volume.hung(2, 0).set(2, 0, 2).check();
         Volume behind = Volume.hung(2, 0).set(2, 0, 2).check().entry(2, 6, 0, 5, 9).entry(1, 7, 0, 0, 1);
         due.same("numbers in places without a name: check()", behind.checked(), 2);

@@ -98,6 +98,15 @@ public final class LinkPassTest {
         ImageChecker x = new Volume().kinds(2, 2, 24).entry(1, 0, 1, 24, 2).entry(24, 7, 1, 2, 2).check().made();
         due.same("in file 24", x.about(2, 4), 24);
         due.same("file 24 itself", x.about(24, 4), 1);
+        Volume eight = new Volume();
+        for (int k = 0; k < 8; k++) {
+            eight.set(2 + k, 0, 2).entry(1, k, 100 - k, 2 + k, 2).set(17 + k, 0, 2).entry(5, k, 50 + k, 17 + k, 2);
+        }
+        ImageChecker y = eight.check().made();
+        for (int k = 0; k < 8; k++) {
+            due.same("entry " + k + " of the root", y.about(2 + k, 4), 1);
+            due.same("entry " + k + " of folder 5", y.about(17 + k, 4), 5);
+        }
         due.same("one that pass 3 hung up", new Volume().set(9, 0, 2).set(9, 4, 5).check().made().about(9, 4), 1);
     }
 

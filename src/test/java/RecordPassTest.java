@@ -248,6 +248,8 @@ public final class RecordPassTest {
         due.sameRuns("that run goes", later, 2, row(0, 2, 30));
         ImageChecker other = Volume.hung(2, -1).set(3, 0, 1).set(3, 1, 65536).run(3, 0, 9, 1, 30).check().made();
         due.same("runs of another file don't count", other.about(2, 1), 0);
+        ImageChecker entries = Volume.hung(2, -1).set(2, 0, 2).entry(2, 0, 5, 2, 20).entry(2, 7, 5, 2, 20).check().made();
+        due.same("entries don't count", entries.about(2, 1), 0);
         ImageChecker place = Volume.hung(2, -1).run(2, 5, 9, 1, 30).check().made();
         due.same("that of the run in the last place", place.about(2, 1), 10240);
     }
@@ -272,6 +274,8 @@ public final class RecordPassTest {
         }
         ImageChecker odd = Volume.hung(2, 65536).run(2, 1, 0, 1, 20).run(2, 3, 1, 1, 30).run(2, 5, 2, 1, 40).check().made();
         due.sameRuns("from places 1, 3, 5", odd, 2, row(0, 1, 20), row(1, 1, 30), row(2, 1, 40));
+        ImageChecker folder = Volume.hung(2, 65536).set(2, 0, 2).entry(2, 0, 5, 2, 20).entry(2, 7, 5, 2, 20).check().made();
+        due.sameRuns("an entry's numbers are no run", folder, 2);
     }
 
     private static void wrongRunsGo(Due due) {
@@ -290,7 +294,8 @@ public final class RecordPassTest {
     }
 
     private static void shorter(Due due) {
-        due.sentence("pass 1", "if it ends behind the last piece that the size needs (size and 1,023, by 1,024, cut), it becomes shorter");
+        due.sentence("pass 1", "if it ends behind the last piece that the size needs "
+            + "(size and 1,023, by 1,024, cut), it becomes shorter");
         int[][] sizeAndLength = {{65536, 10}, {10241, 10}, {10240, 10}, {10239, 10}, {9217, 10}, {9216, 9}, {9215, 9},
             {4097, 5}, {2049, 3}, {2048, 2}, {1025, 2}, {1024, 1}, {1023, 1}, {1, 1}};
         for (int[] each : sizeAndLength) {

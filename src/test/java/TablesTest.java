@@ -116,7 +116,8 @@ public final class TablesTest {
     }
 
     private static void about(Due due) {
-        due.sentence("promise 10", "A number of a record, as for set(). IllegalArgumentException: there is no such file, or number.");
+        due.sentence("promise 10", "A number of a record, as for set(). "
+            + "IllegalArgumentException: there is no such file, or number.");
         for (int file : SOME_FILES) {
             ImageChecker x = new Volume().record(file, 11, 12, 13, 14, 15).made();
             for (int what = 0; what < 5; what++) {
