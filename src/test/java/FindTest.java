@@ -172,7 +172,7 @@ public final class FindTest {
 
     /** Entries matter in folders, so the root's names are of no folder, if it is none by its record. */
     private static void rootThatIsNoFolder(Due due) {
-        due.sentence("promise 15", "or is of no folder (the tables as they are, checked or not)");
+        due.sentence("Terms", "of each file 8 ENTRIES (that matter in folders)");
         for (int kind : new int[] {0, 1, 3, 4, -1, 258, MAX, MIN}) {
             ImageChecker x = tree().set(1, 0, kind).made();
             due.same("a root of kind " + kind, x.find(path(255)), 0);

@@ -393,13 +393,14 @@ public final class HangingPassTest {
     }
 
     private static void foldersInAFullRoot(Due due) {
-        // The record of a folder takes its entries with it: they are 0 as in a record of kind 0.
         due.sentence("pass 3", "its record goes (all 0)");
         Volume v = Volume.rootWith(8).set(3, 0, 2).set(3, 1, 9).run(3, 0, 0, 1, 99).set(2, 0, 1).set(9, 0, 3)
             .entry(3, 0, 1, 24, 1).entry(3, 1, 2, 2, 1).entry(3, 2, 3, 9, 3);
         due.same("a folder, a file before it and one behind it: check()", v.checked(), 4 + 8 + 16);
         due.sameTables("all three go, and the entry for a file that stays", v, Volume.rootWith(8).check());
         due.same("again: check()", v.checked(), 0);
+        // It is then one of kind 0, so that its entries are 0, and pass 4 does not count them.
+        due.sentence("pass 1", "A record of kind 0: all numbers, runs, entries become 0");
         ImageChecker x = Volume.rootWith(8).set(3, 0, 2).entry(3, 0, 1, 24, 1).entry(3, 1, 2, 24, 1).check().made();
         due.sameEntries("entries of the folder", x, 3);
         due.same("links of the file in it that is reached", x.about(24, 2), 1);
